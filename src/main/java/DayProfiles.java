@@ -616,7 +616,7 @@ public final class DayProfiles {
         if (!isRide(off) || !isRide(on) || off == on || now.isCancelled(off) || now.isCancelled(on)) {
             return NO_MINUTES;
         }
-        if (net.transfer(net.to[off], net.from[on]) >= NEVER) {
+        if (net.transfer[net.to[off]][net.from[on]] >= NEVER) {
             return NO_MINUTES;
         }
         return now.slackOf(off, on);
@@ -798,6 +798,8 @@ public final class DayProfiles {
         final int[] names = new int[MOST_STOPS];
         final int[] changes = new int[MOST_STOPS];
         final int[][] walking = new int[MOST_STOPS][MOST_STOPS];
+        /** Minutes from getting off at a STOP till one can be on at another or the same. */
+        final int[][] transfer = new int[MOST_STOPS][MOST_STOPS];
         final int[] firstRide = new int[MOST_TRIPS + 1];
         final int[] tripOf = new int[MOST_RIDES];
         final int[] from = new int[MOST_RIDES];
@@ -871,9 +873,12 @@ public final class DayProfiles {
             }
         }
 
-        /** Minutes from getting off at a STOP till one can be on at another or the same. */
-        int transfer(int a, int b) {
-            return a == b ? changes[a] : walking[a][b];
+        void settleTransfers() {
+            for (int a = 0; a < stops; a++) {
+                for (int b = 0; b < stops; b++) {
+                    transfer[a][b] = a == b ? changes[a] : walking[a][b];
+                }
+            }
         }
 
         /** Whether the RIDE has one of its TRIP behind it. */
@@ -892,7 +897,8 @@ public final class DayProfiles {
         private static final int WORD = 1;
         private static final int NUMBER = 2;
         private static final int SEMICOLON = 3;
-        private static final int NO_TOKEN = 4;
+        private static final int BLANK = 4;
+        private static final int NO_TOKEN = 5;
 
         private static final int CANT_STAND = 1;
         private static final int TOO_MUCH = 2;
@@ -936,6 +942,7 @@ public final class DayProfiles {
                 lines++;
             }
             net.joinWalks();
+            net.settleTransfers();
             return true;
         }
 
@@ -1088,52 +1095,55 @@ public final class DayProfiles {
         /** Goes on to the next token: its place, kind and value. */
         private void advance() {
             place = behind;
-            while (place < length && isBlank(bytes[place])) {
+            while (place < length && kindAt(place) == BLANK) {
                 place++;
             }
-            behind = place;
-            value = 0;
-            if (place >= length) {
-                kind = END;
-            } else if (isLetter(bytes[place])) {
-                takeWord();
-            } else if (isDigit(bytes[place])) {
-                takeNumber();
-            } else {
-                kind = bytes[place] == ';' ? SEMICOLON : NO_TOKEN;
-                behind = place + 1;
-            }
-        }
-
-        private void takeWord() {
-            while (behind < length && isLetter(bytes[behind])) {
-                // Letters beyond the sixth don't count: such a word is no token.
-                if (behind - place < MOST_LETTERS) {
-                    value = value * 27 + (bytes[behind] - 'a' + 1);
+            kind = kindAt(place);
+            behind = Math.min(place + 1, length);
+            if (kind == WORD || kind == NUMBER) {
+                while (behind < length && kindAt(behind) == kind) {
+                    behind++;
                 }
-                behind++;
             }
-            kind = behind - place <= MOST_LETTERS ? WORD : NO_TOKEN;
-        }
-
-        private void takeNumber() {
-            while (behind < length && isDigit(bytes[behind])) {
-                value = Math.min(value * 10 + (bytes[behind] - '0'), NEVER);
-                behind++;
+            if (kind == WORD && behind - place > MOST_LETTERS) {
+                kind = NO_TOKEN;
             }
-            kind = NUMBER;
+            value = kind == WORD ? letters() : digits();
         }
 
-        private static boolean isBlank(int sign) {
-            return sign == 10 || sign == 32;
+        private int kindAt(int p) {
+            if (p >= length) {
+                return END;
+            }
+            int sign = bytes[p];
+            if (sign >= 'a' && sign <= 'z') {
+                return WORD;
+            }
+            if (sign >= '0' && sign <= '9') {
+                return NUMBER;
+            }
+            if (sign == ';') {
+                return SEMICOLON;
+            }
+            return sign == 10 || sign == 32 ? BLANK : NO_TOKEN;
         }
 
-        private static boolean isLetter(int sign) {
-            return sign >= 'a' && sign <= 'z';
+        /** A number for the word, another one for each. */
+        private int letters() {
+            int number = 0;
+            for (int p = place; p < behind; p++) {
+                number = number * 27 + (bytes[p] - 'a' + 1);
+            }
+            return number;
         }
 
-        private static boolean isDigit(int sign) {
-            return sign >= '0' && sign <= '9';
+        /** The number; one that is far too great stays below what an int can hold. */
+        private int digits() {
+            int number = 0;
+            for (int p = place; p < behind && kind == NUMBER && number < NEVER; p++) {
+                number = number * 10 + (bytes[p] - '0');
+            }
+            return number;
         }
     }
 
@@ -1218,7 +1228,7 @@ public final class DayProfiles {
 
         /** By how many minutes a RIDE leaves later than one off another can be there. */
         int slackOf(int off, int on) {
-            return leave[on] - come[off] - net.transfer(net.to[off], net.from[on]);
+            return leave[on] - come[off] - net.transfer[net.to[off]][net.from[on]];
         }
 
         /** Whether one who is on the RIDE can stay on for the next one. */
@@ -1709,7 +1719,7 @@ public final class DayProfiles {
         /** Minutes from s, or from where the LEG ahead ends, till one can be on LEG l; NEVER: no WALK. */
         int wayTo(Network net, int l, int s) {
             int stop = net.from[on[l]];
-            return l == 0 ? net.walking[s][stop] : net.transfer(net.to[off[l - 1]], stop);
+            return l == 0 ? net.walking[s][stop] : net.transfer[net.to[off[l - 1]]][stop];
         }
 
         /** By how many minutes LEG l leaves later than one from s at minute m can be there. */

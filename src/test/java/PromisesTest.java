@@ -124,6 +124,18 @@ public final class PromisesTest {
         }
         due("3 anew, earliest", x.earliest(0, 2, 100, 4), 140);
         due("3 anew, undo", x.undo(), -1);
+        due("3 profile", x.profile(0, 2), 3);
+        due("3 another text", Calls.text(x, "stop a 5;stop b 5;stop c 5;walk a b 1;trip a 7 9 c;"), 5);
+        due("3 its profile", x.profile(0, 2), 1);
+        due("3 its arrival", x.at(0, 2, 0, 1), 9);
+        for (int round = 0; round < 4; round++) {
+            due("3 the first again", Calls.text(x, SMALL), 8);
+            due("3 its walks", x.count(1), 1);
+            due("3 its trips", x.count(2), 4);
+            due("3 its rides", x.count(3), 5);
+            due("3 its walk", x.walk(0, 1), -2);
+            due("3 its hub", x.hub(1), 1);
+        }
         due("3 the empty text", x.text(0), 0);
         due("3 no stops", x.count(0), 0);
         due("3 no rides", Calls.thrownBy(x, 0, 0), 1);
@@ -852,6 +864,11 @@ public final class PromisesTest {
         due("36 broken", x.breaks(0, 6, 2), 1);
         due("36 the later leg", x.breaks(1, 240, 2), 0);
         due("36 to a", x.breaks(0, 240, 0), 0);
+        DayProfiles y = of("stop a 0;stop b 0;stop c 0;stop d 0;walk b c 2;trip a 1 2 b 3 4 c 5 6 d;");
+        y.cancel(0, 1, 1, true);
+        due("36 one trip twice", y.at(0, 3, 0, 2), 1);
+        due("36 both are later", y.breaks(0, 240, 3), 0);
+        due("36 it is used once", y.uses(0, 3), 3);
         due("36 d", x.breaks(0, 0, 2), -1);
         due("36 d", x.breaks(0, 241, 2), -1);
         due("36 no such", x.breaks(4, 1, 2), -1);
