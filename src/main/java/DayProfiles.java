@@ -613,7 +613,7 @@ public final class DayProfiles {
     }
 
     public int slack(int off, int on) {
-        if (!isRide(off) || !isRide(on) || off == on || now.isCancelled(off) || now.isCancelled(on)) {
+        if (!isRide(off) || !isRide(on) || now.isCancelled(off) || now.isCancelled(on)) {
             return NO_MINUTES;
         }
         if (net.transfer[net.to[off]][net.from[on]] >= NEVER) {

@@ -671,7 +671,7 @@ final class Oracle {
     }
 
     int slack(int a, int b) {
-        if (!ride(a) || !ride(b) || a == b || off[a] || off[b] || between(to(a), from(b)) >= INF) {
+        if (!ride(a) || !ride(b) || off[a] || off[b] || between(to(a), from(b)) >= INF) {
             return -1000;
         }
         return leave(b) - (come(a) + between(to(a), from(b)));

@@ -800,12 +800,29 @@ public final class PromisesTest {
         due("32 no walk", x.slack(3, 0), -1000);
         due("32 no such", x.slack(5, 0), -1000);
         due("32 no such", x.slack(0, -1), -1000);
-        due("32 one ride is no other", of("stop a 0;stop b 0;walk a b 5;trip a 1 2 b;").slack(0, 0), -1000);
         x.delay(0, 0, 4);
         due("32 NOW", x.slack(0, 2), 1);
         x.cancel(1, 0, 1, true);
         due("32 on is cancelled", x.slack(0, 2), -1000);
         due("32 off is cancelled", x.slack(2, 4), -1000);
+        slackOfOneRide();
+    }
+
+    // A ride with itself is asked for as any two are: the document lists no "one and the same" here.
+    private static void slackOfOneRide() {
+        DayProfiles x = of("stop a 5;stop b 5;stop c 7;walk a b 5;trip a 100 120 b 125 150 c;");
+        due("32 one ride, back by a walk", x.slack(0, 0), -25);
+        due("32 one ride, no walk", x.slack(1, 1), -1000);
+        due("32 no such, twice", x.slack(2, 2), -1000);
+        due("32 no such, twice", x.slack(-1, -1), -1000);
+        x.delay(0, 0, 30);
+        due("32 one ride, late", x.slack(0, 0), -25);
+        x.cancel(0, 0, 1, true);
+        due("32 one ride, cancelled", x.slack(0, 0), -1000);
+        x.undo();
+        due("32 one ride, brought back", x.slack(0, 0), -25);
+        DayProfiles far = of("stop a 0;stop b 0;walk a b 240;trip a 0 1439 b;");
+        due("32 one ride, too late by more than a thousand", far.slack(0, 0), -1679);
     }
 
     // Promise 33
