@@ -11,7 +11,11 @@ public final class FullSizeTest {
 
     public static void main(String[] args) {
         for (int seed = 1; seed <= 60; seed++) {
-            new FullSizeTest(seed).run();
+            FullSizeTest test = new FullSizeTest(seed);
+            test.run(seed % 2 == 0 ? test.makeText() : test.makeFullText());
+            if (seed <= 10) {
+                oddArguments(test.x);
+            }
         }
         oddArguments(new DayProfiles());
         calls.end();
@@ -25,14 +29,13 @@ public final class FullSizeTest {
         return random.nextInt(n);
     }
 
-    private void run() {
-        calls.due("lines", Calls.text(x, makeText()) > 0 ? 1 : 0, 1);
+    private void run(String text) {
+        calls.due("lines", Calls.text(x, text) > 0 ? 1 : 0, 1);
         for (int round = 0; round < 4; round++) {
             agree();
             x.delay(below(x.count(2)), 0, below(60));
             x.cancel(below(x.count(2)), 0, 1 + below(3), true);
         }
-        oddArguments(x);
     }
 
     private String makeText() {
@@ -57,6 +60,36 @@ public final class FullSizeTest {
                 rides++;
             }
             text.append(';');
+        }
+        return text.toString();
+    }
+
+    /** All that a text may have: ten stops, twelve walks, twenty trips, sixty rides. */
+    private String makeFullText() {
+        StringBuilder text = new StringBuilder();
+        for (int s = 0; s < 10; s++) {
+            text.append("stop ").append((char) ('a' + s)).append(' ').append(below(6)).append(';');
+        }
+        for (int w = 0; w < 12; w++) {
+            int a = below(10);
+            text.append("walk ").append((char) ('a' + a)).append(' ');
+            text.append((char) ('a' + (a + 1 + below(9)) % 10)).append(' ').append(10 + below(90)).append(';');
+        }
+        for (int t = 0; t < 20; t++) {
+            int stop = below(10);
+            int minute = below(90);
+            text.append("trip ").append((char) ('a' + stop));
+            for (int i = 0; i < 3; i++) {
+                stop = (stop + 1 + below(9)) % 10;
+                text.append(' ').append(minute).append(' ').append(minute + 1 + below(2)).append(' ').append((char) ('a' + stop));
+                minute += 2 + below(2);
+            }
+            text.append(';');
+        }
+        DayProfiles y = new DayProfiles();
+        calls.due("lines", Calls.text(y, text.toString()), 42);
+        for (int what = 0; what < 4; what++) {
+            calls.due("count " + what, y.count(what), new int[] {10, 12, 20, 60}[what]);
         }
         return text.toString();
     }
@@ -131,7 +164,6 @@ public final class FullSizeTest {
     /** No argument makes a call throw but where the document says so. */
     private static void oddArguments(DayProfiles x) {
         for (int a : ODD) {
-            x.text(a);
             x.fault(a);
             x.change(a);
             x.hub(a);
@@ -148,6 +180,10 @@ public final class FullSizeTest {
                     }
                 }
             }
+        }
+        for (int a : ODD) {
+            x.feed(a, a, a, a, a);
+            x.text(a);
         }
     }
 

@@ -25,7 +25,7 @@ public final class RandomRunsTest {
     }
 
     private void run() {
-        int lines = makeNetwork();
+        int lines = seed % 50 == 0 ? makeFullNetwork() : makeNetwork();
         calls.due("seed " + seed + " text " + text, Calls.text(x, text.toString()), lines);
         oracle.begin();
         int number = 60 + random.nextInt(200);
@@ -50,6 +50,39 @@ public final class RandomRunsTest {
 
     private static String name(int stop) {
         return "abcdefghij".substring(stop, stop + 1) + (stop % 3 == 0 ? "x" : stop % 3 == 1 ? "" : "stop");
+    }
+
+    /** All that a text may have; it is one of short names, and of few journeys for the Oracle's sake. */
+    private int makeFullNetwork() {
+        oracle.stops = 10;
+        oracle.change = new int[10];
+        horizon = 100;
+        for (int s = 0; s < 10; s++) {
+            oracle.change[s] = 15 + below(46);
+            text.append("stop ").append((char) ('a' + s)).append(' ').append(oracle.change[s]).append(';');
+        }
+        for (int w = 0; w < 12; w++) {
+            int a = below(9);
+            int minutes = 20 + below(60);
+            oracle.walks.add(new int[] {a, a / 3 * 3 + (a + 1) % 3, minutes});
+            text.append("walk ").append((char) ('a' + a)).append(' ').append((char) ('a' + a / 3 * 3 + (a + 1) % 3));
+            text.append(' ').append(minutes).append(';');
+        }
+        for (; oracle.trips < 20; oracle.trips++) {
+            int stop = below(10);
+            int minute = below(85);
+            text.append("trip ").append((char) ('a' + stop));
+            for (int i = 0; i < 3; i++) {
+                int next = (stop + 1 + below(9)) % 10;
+                int comes = minute + 1 + below(3);
+                oracle.rides.add(new int[] {oracle.trips, stop, next, minute, comes});
+                text.append(' ').append(minute).append(' ').append(comes).append(' ').append((char) ('a' + next));
+                stop = next;
+                minute = comes + below(3);
+            }
+            text.append(';');
+        }
+        return 42;
     }
 
     private int makeNetwork() {
