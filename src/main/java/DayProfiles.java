@@ -1231,11 +1231,6 @@ public final class DayProfiles {
             return leave[on] - come[off] - net.transfer[net.to[off]][net.from[on]];
         }
 
-        /** Whether one who is on the RIDE can stay on for the next one. */
-        boolean staysOn(int ride) {
-            return net.goesOn(ride) && !isCancelled(ride + 1);
-        }
-
         void link() {
             if (linked) {
                 return;
@@ -1441,7 +1436,8 @@ public final class DayProfiles {
                 }
             }
             int off = ride;
-            if (now.staysOn(ride) && arrive[t][row + ride + 1] < best) {
+            // A CANCELLED next one comes NEVER, so that nobody stays on for it.
+            if (now.net.goesOn(ride) && arrive[t][row + ride + 1] < best) {
                 best = arrive[t][row + ride + 1];
                 off = getOff[t][row + ride + 1];
             }

@@ -107,6 +107,7 @@ final class BoundariesOfProfiles {
         rows(x, 0, 3);
         doc.due("earliest", x.earliest(0, 2, 1, 0), 3);
         doc.due("earliest", x.earliest(0, 3, 1, 4), -2);
+        doc.due("on to the last ride of all", doc.read("stop a 9;stop b 9;stop c 9;trip a 1 2 b 2 3 c;").earliest(0, 2, 1, 0), 3);
         DayProfiles then = doc.read("stop a 0;stop b 0;stop c 0;stop d 0;trip a 1 2 b;trip b 5 6 c 7 8 d;trip d 9 10 c;");
         rows(then, 0, 3, row(1, 8, 1));
         doc.due("on behind a change", then.earliest(0, 3, 1, 1), 8);

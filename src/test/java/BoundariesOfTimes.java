@@ -12,6 +12,8 @@ final class BoundariesOfTimes {
     }
 
     void run() {
+        asOfNow();
+        cancelledAsOfNow();
         delaysOfTrips();
         refused();
         delay();
@@ -29,6 +31,101 @@ final class BoundariesOfTimes {
             int onTheWay = x.ride(ride, 4) - x.ride(ride, 3);
             doc.due("ride " + ride + " comes", x.ride(ride, 6), minutes[ride] + onTheWay);
         }
+    }
+
+    /** Each TRIP seven minutes later; a new one for each question, as nothing asked ahead shall help. */
+    private DayProfiles sevenLater() {
+        DayProfiles x = doc.read(BoundariesOfProfiles.SMALL);
+        for (int trip = 0; trip < 4; trip++) {
+            x.delay(trip, 0, 7);
+        }
+        return x;
+    }
+
+    private void asOfNow() {
+        doc.in("Terms 2");
+        doc.says("NOW: each RIDE leaves and comes so many minutes later");
+        doc.due("earliest", sevenLater().earliest(0, 2, 107, 4), 147);
+        doc.due("latest", sevenLater().latest(0, 2, 147), 107);
+        doc.due("latest", sevenLater().latest(0, 2, 146), -2);
+        doc.due("reached", sevenLater().reached(0, 107, 40), 7);
+        doc.due("reached", sevenLater().reached(0, 107, 39), 3);
+        doc.due("costOfFewer", sevenLater().costOfFewer(0, 2, 107, 1), 10);
+        doc.due("mean", sevenLater().mean(0, 2, 107, 108), 40);
+        doc.due("fewest", sevenLater().fewest(0, 2, 107, 147), 1);
+        doc.due("fewest", sevenLater().fewest(0, 2, 107, 146), -2);
+        doc.due("missed", sevenLater().missed(0, 2, 111, 0), 2);
+        doc.due("missed", sevenLater().missed(0, 2, 107, 1), 167);
+        doc.due("via", sevenLater().via(0, 1, 2, 107), 147);
+        doc.due("stay", sevenLater().stay(0, 1, 107, 142), 6);
+        for (int what = 0; what <= 1; what++) {
+            doc.due("meet", sevenLater().meet(0, 1, 107, what), what == 0 ? 1 : 127);
+            doc.due("meet", sevenLater().meet(1, 0, 107, what), what == 0 ? 1 : 127);
+        }
+        doc.due("at", sevenLater().at(0, 2, 0, 0), 107);
+        doc.due("atBy", sevenLater().atBy(0, 2, 0, 0, 1), 157);
+        doc.due("board", sevenLater().board(1, 133, false, 0), 4);
+        doc.due("late", sevenLater().late(0, 0, 2, 107), 6);
+        someLater();
+    }
+
+    /** Where not all are as late as one another, what lies between them is other, too. */
+    private void someLater() {
+        DayProfiles stay = doc.read("stop a 0;stop b 0;stop c 0;trip a 10 20 b 20 30 c;");
+        stay.delay(0, 1, 5);
+        doc.due("waits", stay.waits(0, 2, 0, 0), 0);
+        doc.due("travels", stay.travels(0, 2, 0, 0), 25);
+        doc.due("quickest", stay.quickest(0, 2, 1), 25);
+        String two = "stop a 0;stop b 0;trip a 10 20 b;trip a 30 40 b;";
+        DayProfiles sooner = doc.read(two);
+        sooner.delay(1, 0, -25);
+        doc.due("next", sooner.next(0, 1, 5), 20);
+        doc.due("gap", sooner.gap(0, 1), 5);
+        DayProfiles later = doc.read(two + "trip a 50 60 b;");
+        later.delay(0, 0, 240);
+        doc.due("next", later.next(0, 1, 10), 60);
+        doc.due("gap", later.gap(0, 1), 200);
+        DayProfiles alone = doc.read("stop a 0;stop b 0;trip a 10 20 b;trip a 11 21 b;");
+        alone.delay(0, 0, 5);
+        alone.delay(1, 0, 10);
+        doc.due("late", alone.late(0, 0, 1, 10), 1);
+        doc.due("ifLate", alone.ifLate(0, -5, 0, 1, 10), 20);
+        DayProfiles change = doc.read(BoundariesOfProfiles.ROW);
+        change.delay(5, 0, 9);
+        doc.due("slack", change.slack(4, 5), 9);
+        doc.due("breaks", change.breaks(4, 8, 6), 0);
+        doc.due("breaks", change.breaks(4, 10, 6), 4);
+        change.delay(1, 0, -1);
+        doc.due("hub: b is left too soon for those from a; from b, c ahead of d to three", change.hub(1), 6);
+        doc.due("uses: none from a", change.uses(0, 2), 0);
+    }
+
+    private void cancelledAsOfNow() {
+        doc.says("RIDES may be CANCELLED");
+        DayProfiles x = doc.read(BoundariesOfProfiles.SMALL);
+        x.cancel(1, 0, 1, true);
+        doc.due("earliest", x.earliest(0, 2, 100, 4), 150);
+        doc.due("latest", x.latest(0, 2, 149), -2);
+        doc.due("reached", x.reached(0, 100, 40), 3);
+        doc.due("costOfFewer", x.costOfFewer(0, 2, 100, 1), 0);
+        doc.due("mean", x.mean(0, 2, 100, 101), 50);
+        doc.due("fewest", x.fewest(0, 2, 100, 149), -2);
+        doc.due("missed", x.missed(0, 2, 100, 1), 160);
+        doc.due("via", x.via(0, 1, 2, 100), 150);
+        doc.due("meet", x.meet(0, 2, 100, 1), 130);
+        doc.due("next", x.next(0, 2, 100), 160);
+        doc.due("profile", x.profile(0, 2), 2);
+        doc.due("profileBy", x.profileBy(0, 2, 1), 2);
+        doc.due("leg", x.leg(0, 2, 0, 1, 0), -2);
+        doc.due("uses", x.uses(1, 2), 0);
+        doc.due("breaks", x.breaks(0, 240, 2), 0);
+        doc.due("hub", x.hub(0), -2);
+        doc.due("board", x.board(1, 127, false, 0), -2);
+        doc.due("slack", x.slack(0, 2), -1000);
+        doc.due("late", x.late(1, 0, 2, 100), -2);
+        doc.due("ifLate", x.ifLate(1, 0, 0, 2, 100), 150);
+        x.cancel(3, 0, 1, true);
+        doc.due("stay", x.stay(0, 1, 100, 140), -2);
     }
 
     private void delaysOfTrips() {
