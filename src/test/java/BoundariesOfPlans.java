@@ -60,7 +60,7 @@ final class BoundariesOfPlans {
     }
 
     private void asOfNowOrAsTold() {
-        doc.says("does each LEG go, one after another, as of NOW (or as told: no DELAYS, nothing CANCELLED)?");
+        doc.says("CHECKED from s at minute m to t: does each LEG go, one after another, as of NOW (or as told: no DELAYS, nothing CANCELLED)?");
         DayProfiles x = planned(SMALL, 0, 0, 2, 2);
         checkedIs(x, 0, 2, 100, false, 0, -2, 140);
         x.delay(1, 0, 7);

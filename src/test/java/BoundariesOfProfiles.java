@@ -89,7 +89,7 @@ final class BoundariesOfProfiles {
     }
 
     private void stayingOn() {
-        doc.says("One who is on a RIDE stays on for the next RIDE of its TRIP (if that isn't CANCELLED), or gets off where it comes");
+        doc.says("ON: to be on a RIDE. One who is on a RIDE stays on for the next RIDE of its TRIP (if that isn't CANCELLED), or gets off where it comes");
         DayProfiles x = doc.read("stop a 9;stop b 9;stop c 9;stop d 9;trip a 1 2 b 2 3 c 3 4 d;trip d 5 6 a;");
         rows(x, 0, 3, row(1, 4, 0));
         rows(x, 0, 1, row(1, 2, 0));
@@ -116,7 +116,7 @@ final class BoundariesOfProfiles {
     }
 
     private void changing() {
-        doc.says("one can be ON a RIDE that isn't CANCELLED and leaves the STOP at m and CHANGE or later (one CHANGES)");
+        doc.says("Off at minute m at a STOP one can be ON a RIDE that isn't CANCELLED and leaves the STOP at m and CHANGE or later (one CHANGES)");
         DayProfiles x = doc.read("stop a 0;stop b 60;stop c 0;trip a 10 20 b;trip b 80 90 c;");
         rows(x, 0, 2, row(10, 90, 1));
         x.delay(1, 0, -1);
@@ -145,7 +145,7 @@ final class BoundariesOfProfiles {
     }
 
     private void leaving() {
-        doc.says("s not t: one leaves s at a minute (0 or more)");
+        doc.says("A JOURNEY from STOP s to STOP t, s not t: one leaves s at a minute (0 or more)");
         DayProfiles x = doc.read("stop a 0;stop b 9;stop c 0;walk a b 20;trip b 20 30 c;trip b 19 25 c;");
         rows(x, 0, 2, row(0, 30, 0));
         rows(x, 1, 2, row(19, 25, 0), row(20, 30, 0));
@@ -156,7 +156,7 @@ final class BoundariesOfProfiles {
         doc.due("just in time", y.earliest(0, 2, 0, 4), 9);
         doc.due("just in time", y.earliest(0, 2, 43, 4), 51);
         doc.due("too late", y.earliest(0, 2, 44, 4), -2);
-        doc.says("DEP is when the first RIDE leaves less the WALK to it. ARR is when the last RIDE comes and the WALK to t");
+        doc.says("It leaves so late as can be: DEP is when the first RIDE leaves less the WALK to it. ARR is when the last RIDE comes and the WALK to t");
         DayProfiles z = doc.read("stop a 9;stop b 9;stop c 9;stop d 9;stop e 9;walk a b 5;walk d e 6;trip b 10 20 c;trip c 30 40 d;");
         rows(z, 0, 4, row(5, 46, 1));
         rows(z, 1, 4, row(10, 46, 1));
@@ -164,16 +164,22 @@ final class BoundariesOfProfiles {
     }
 
     private void fourChanges() {
-        doc.says("4 CHANGES at most");
+        doc.says("stays on, gets off, CHANGES, and so on, 4 CHANGES at most; is at t at a minute: its DEP, ARR, CHANGES");
         DayProfiles x = doc.read(ROW);
         rows(x, 0, 5, row(10, 19, 4));
         legs(x, 0, 5, 0, 0, 0, 1, 1, 2, 2, 3, 3, 4, 4);
         rows(x, 0, 6);
         rows(x, 1, 6, row(12, 21, 4));
+        DayProfiles on = doc.read("stop a 9;stop b 9;stop c 1;stop d 9;stop e 9;stop f 9;stop g 9;stop h 9;walk e f 8;"
+            + "trip a 1 2 b 2 3 c;trip c 4 5 d 6 7 e;trip f 15 16 g 17 18 h;");
+        rows(on, 0, 7, row(1, 18, 2));
+        legs(on, 0, 7, 0, 0, 1, 2, 3, 4, 5);
+        rows(on, 0, 6, row(1, 16, 2));
+        legs(on, 0, 6, 0, 0, 1, 2, 3, 4, 4);
     }
 
     private void beaten() {
-        doc.says("BEATEN by another one that has DEP no less, ARR no more, CHANGES no more, and not all three alike");
+        doc.says("A JOURNEY is BEATEN by another one that has DEP no less, ARR no more, CHANGES no more, and not all three alike");
         String ab = "stop a 0;stop b 0;stop c 0;";
         rows(doc.read(ab + "trip a 10 20 b;trip a 10 21 b;"), 0, 1, row(10, 20, 0));
         rows(doc.read(ab + "trip a 10 20 b;trip a 11 20 b;"), 0, 1, row(11, 20, 0));
@@ -231,7 +237,7 @@ final class BoundariesOfProfiles {
         legs(second, 0, 3, 0, 3, 4, 0, 0);
         second.cancel(0, 0, 1, true);
         legs(second, 0, 3, 0, 3, 4, 2, 2);
-        doc.says("its LEGS, each from a RIDE one gets ON to one of the same TRIP at whose end one gets off");
+        doc.says("UNFOLDED one of these: its LEGS, each from a RIDE one gets ON to one of the same TRIP at whose end one gets off");
         DayProfiles twice = doc.read("stop a 0;stop b 0;stop c 0;walk a b 1;trip c 1 2 a 3 4 b 5 6 c 7 8 b 9 10 a;");
         legs(twice, 2, 1, 0, 0, 0);
         twice.cancel(0, 1, 1, true);
@@ -255,7 +261,7 @@ final class BoundariesOfProfiles {
         doc.each("no such t", -1, t -> x.profile(0, t), NO_STOP);
         doc.each("the same", -1, s -> x.profile(s, s), 0, 1, 2, 3, -1);
         doc.in("Promise 12");
-        doc.says("what 0 DEP, 1 ARR, 2 CHANGES");
+        doc.says("Of the i-th in the PROFILE, what 0 DEP, 1 ARR, 2 CHANGES");
         rows(x, 0, 2, row(100, 140, 1), row(100, 150, 0), row(110, 160, 0));
         doc.says("-2: there are not so many");
         doc.each("at", -2, i -> x.at(0, 2, i, 0), 3, 4, 300, MOST);
@@ -282,7 +288,7 @@ final class BoundariesOfProfiles {
     private void leg() {
         DayProfiles x = doc.read(SMALL);
         doc.in("Promise 13");
-        doc.says("LEG l (from 0 on), what 0 the RIDE on, 1 the RIDE off");
+        doc.says("UNFOLDED the i-th in the PROFILE, LEG l (from 0 on), what 0 the RIDE on, 1 the RIDE off");
         legs(x, 0, 2, 0, 0, 0, 2, 2);
         legs(x, 0, 2, 1, 0, 0);
         legs(x, 0, 2, 2, 3, 3);
@@ -366,14 +372,14 @@ final class BoundariesOfProfiles {
     private void waits() {
         DayProfiles x = doc.read(WALKED);
         doc.in("Terms 3");
-        doc.says("ARR less DEP less all minutes on RIDES (from where a LEG's RIDE on leaves to where its RIDE off comes) and all WALKS");
+        doc.says("WAITS of an UNFOLDED one: ARR less DEP less all minutes on RIDES (from where a LEG's RIDE on leaves to where its RIDE off comes) and all WALKS");
         rows(x, 1, 5, row(105, 147, 1));
         doc.due("but for the stay at a", x.waits(1, 5, 0, 0), 42 - 15 - 6 - 10 - 7);
         rows(x, 0, 5, row(115, 147, 1));
         doc.due("from a", x.waits(0, 5, 0, 0), 32 - 5 - 6 - 10 - 7);
         doc.due("a walk first", doc.read("stop a 9;stop b 9;stop c 9;walk a b 5;trip b 10 20 c;").waits(0, 2, 0, 0), 0);
         doc.due("a change is waiting, too", doc.read("stop a 0;stop b 7;stop c 0;trip a 1 2 b;trip b 9 10 c;").waits(0, 2, 0, 0), 7);
-        doc.says("the least by which a LEG but the first leaves later than one can be there (-2: one LEG)");
+        doc.says("SLACK of one: the least by which a LEG but the first leaves later than one can be there (-2: one LEG)");
         doc.due("by a walk", x.waits(0, 5, 0, 1), 4);
         x.delay(0, 0, 4);
         doc.due("just in time", x.waits(0, 5, 0, 1), 0);
@@ -404,7 +410,7 @@ final class BoundariesOfProfiles {
     private void travels() {
         DayProfiles x = doc.read(WALKED);
         doc.in("Promise 37");
-        doc.says("what 0 all minutes on RIDES (as of WAITS), 1 all WALKS, 2 how many RIDES");
+        doc.says("Of the UNFOLDED i-th in the PROFILE, what 0 all minutes on RIDES (as of WAITS), 1 all WALKS, 2 how many RIDES");
         doc.due("on rides", x.travels(1, 5, 0, 0), 25);
         doc.due("walks", x.travels(1, 5, 0, 1), 13);
         doc.due("rides", x.travels(1, 5, 0, 2), 3);
@@ -450,7 +456,7 @@ final class BoundariesOfProfiles {
         DayProfiles walked = doc.read("stop a 0;stop b 0;stop c 0;stop d 0;walk b c 5;trip a 10 20 c;trip b 30 40 d;");
         doc.due("where the leg ends, not where one gets on", walked.hub(0), 2);
         doc.in("Promise 26");
-        doc.says("what 0 the STOP, 1 how many LEGS end there");
+        doc.says("HUB, what 0 the STOP, 1 how many LEGS end there");
         DayProfiles row = doc.read(ROW);
         doc.due("stop", row.hub(0), 3);
         doc.due("legs", row.hub(1), 8);
@@ -497,7 +503,7 @@ final class BoundariesOfProfiles {
 
     private void quickest() {
         doc.in("Promise 34");
-        doc.says("the one with the least ARR less DEP, the first of several, what 0 as the how-manieth it stands, 1 these minutes");
+        doc.says("Of the PROFILE the one with the least ARR less DEP, the first of several, what 0 as the how-manieth it stands, 1 these minutes");
         DayProfiles x = doc.read("stop a 0;stop b 0;stop c 0;trip a 1 9 b;trip a 5 11 b;trip a 7 13 b;trip a 8 15 b;");
         doc.due("which", x.quickest(0, 1, 0), 1);
         doc.due("minutes", x.quickest(0, 1, 1), 6);
@@ -523,7 +529,7 @@ final class BoundariesOfProfiles {
     private void breaks() {
         DayProfiles x = doc.read(SMALL);
         doc.in("Terms 3");
-        doc.says("an UNFOLDED one whose LEGS, as they are, wouldn't go any more (one could not be ON in time),"
+        doc.says("BROKEN by a TRIP d minutes later: an UNFOLDED one whose LEGS, as they are, wouldn't go any more (one could not be ON in time),"
             + " were all RIDES of the TRIP that much later");
         doc.due("just in time", x.breaks(0, 5, 2), 0);
         doc.due("too late", x.breaks(0, 6, 2), 1);

@@ -11,7 +11,6 @@ final class BoundariesOfTexts {
     }
 
     void run() {
-        calls();
         tokens();
         stopsAndWalks();
         trips();
@@ -41,18 +40,6 @@ final class BoundariesOfTexts {
         doc.due(text, Calls.text(x, text), -1);
         doc.due("fault of " + text, x.fault(0), fault);
         doc.due("place in " + text, x.fault(1), place);
-    }
-
-    private void calls() {
-        doc.in("What it is");
-        doc.says("at most 512 calls after it has been made");
-        DayProfiles x = new DayProfiles();
-        for (int call = 1; call <= 510; call += 2) {
-            x.feed(0x73746f70, 0x20612035, 0x3b202020, 0x20202020, 0x20202020);
-            doc.due("text at call " + (call + 1), x.text(20), 1);
-        }
-        doc.due("call 511", x.change(0), 5);
-        doc.due("call 512", x.count(0), 1);
     }
 
     // ---- Terms 1 ----
@@ -497,7 +484,7 @@ final class BoundariesOfTexts {
     private void ride() {
         doc.in("Promise 5");
         DayProfiles x = busy();
-        doc.says("what 0 its TRIP, 1 from which STOP, 2 to which, 3 when it leaves as told, 4 when it comes as told,"
+        doc.says("Of a RIDE, what 0 its TRIP, 1 from which STOP, 2 to which, 3 when it leaves as told, 4 when it comes as told,"
             + " 5, 6 likewise NOW, 7 whether it is CANCELLED (1, 0), 8 the RIDE of its TRIP behind it (-2: none)");
         int[][] due = {{0, 0, 1, 10, 20, 17, 27, 0, 1}, {0, 1, 0, 30, 40, 37, 47, 0, -2}, {1, 1, 0, 50, 60, 50, 60, 1, -2}};
         for (int ride = 0; ride < 3; ride++) {

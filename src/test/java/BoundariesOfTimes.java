@@ -187,7 +187,7 @@ final class BoundariesOfTimes {
 
     private void delay() {
         doc.in("Promise 8");
-        doc.says("how many RIDES have other times than ahead of it");
+        doc.says("A DELAY of a TRIP from its j-th RIDE on: how many RIDES have other times than ahead of it");
         DayProfiles x = doc.read(THREE);
         doc.due("none", x.delay(0, 0, 0), 0);
         doc.due("three", x.delay(0, 0, 3), 3);
@@ -321,7 +321,7 @@ final class BoundariesOfTimes {
 
     private void whatCanBeUndone() {
         doc.in("Terms 4");
-        doc.says("can be undone by call, the latest first, 20 at most (the eldest are forgotten)");
+        doc.says("DELAYS and CANCELLED RIDES can be undone by call, the latest first, 20 at most (the eldest are forgotten)");
         DayProfiles x = doc.read(THREE);
         for (int i = 1; i <= 20; i++) {
             x.delay(1, 0, i);

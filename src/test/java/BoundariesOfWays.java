@@ -215,7 +215,7 @@ final class BoundariesOfWays {
         DayProfiles first = doc.read(AB + "trip a 10 20 b;trip b 20 30 c;trip b 24 30 c;trip a 11 40 c;");
         doc.due("one may take the other", first.late(0, 0, 2, 10), 5);
         doc.in("Promise 19");
-        doc.says("-3: there is no way (ahead of -2)");
+        doc.says("LATE of a TRIP for s at minute m to t; -3: there is no way (ahead of -2)");
         doc.due("no way", x.late(2, 0, 2, 111), -3);
         doc.due("no way, the trip is nothing to it", x.late(3, 0, 1, 1439), -3);
         doc.says("-2: it may be as late as 240");
@@ -253,7 +253,7 @@ final class BoundariesOfWays {
         doc.due("no way without the first", only.missed(0, 1, 10, 1), -3);
         doc.due("no way without 0, 1", only.missed(0, 2, 10, 0), 0);
         doc.in("Promise 20");
-        doc.says("what 0 the TRIP, 1 EARLIEST without it (-3: no way)");
+        doc.says("MISSED for s at minute m to t, what 0 the TRIP, 1 EARLIEST without it (-3: no way)");
         doc.due("none matters: as it is", x.missed(1, 2, 200, 1), 230);
         doc.due("no way", two.missed(0, 1, 10, 1), -3);
         doc.says("-2: there is no way, no such TRIP");
@@ -414,7 +414,7 @@ final class BoundariesOfWays {
     private void board() {
         DayProfiles x = doc.read(SMALL);
         doc.in("Terms 3");
-        doc.says("RIDES that aren't CANCELLED and leave it (or come to it) at m or later, by that minute, of like ones by numbers");
+        doc.says("BOARD of a STOP from minute m: RIDES that aren't CANCELLED and leave it (or come to it) at m or later, by that minute, of like ones by numbers");
         int[] leaving = {1, 4, 2, -2};
         for (int i = 0; i < leaving.length; i++) {
             doc.due("leaving b", x.board(1, 125, false, i), leaving[i]);

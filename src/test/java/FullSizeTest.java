@@ -1,6 +1,7 @@
+import java.util.List;
 import java.util.Random;
 
-/** The largest timetables: every call on them answers, and answers agree with one another. */
+/** The largest timetables: every call on them answers, and answers agree with one another and with Forward. */
 public final class FullSizeTest {
     private static final Calls calls = new Calls();
     private static final int[] ODD = {Integer.MIN_VALUE, -61, -2, -1, 0, 1, 2, 4, 5, 6, 9, 10, 19, 20, 59, 60,
@@ -33,6 +34,7 @@ public final class FullSizeTest {
         calls.due("lines", Calls.text(x, text) > 0 ? 1 : 0, 1);
         for (int round = 0; round < 4; round++) {
             agree();
+            agreeWithForward();
             x.delay(below(x.count(2)), 0, below(60));
             x.cancel(below(x.count(2)), 0, 1 + below(3), true);
         }
@@ -159,6 +161,49 @@ public final class FullSizeTest {
                 calls.due(pair + "late", then == -2 || then > e ? 1 : 0, 1);
             }
         }
+    }
+
+    /** PROFILES and EARLIEST are what a search from STOP to STOP finds. */
+    private void agreeWithForward() {
+        int trip = below(x.count(2));
+        int d = below(301) - 60;
+        Forward now = new Forward(x, -1, 0);
+        Forward later = new Forward(x, trip, d);
+        Forward without = new Forward(x, -1, 0).without(trip);
+        int s = below(10);
+        List<List<int[]>> profiles = now.profiles(s);
+        for (int t = 0; t < 10; t++) {
+            String pair = s + " to " + t + ": ";
+            List<int[]> rows = profiles.get(t);
+            calls.due(pair + "profile", x.profile(s, t), s == t ? -1 : rows.size());
+            for (int i = 0; i < rows.size(); i++) {
+                agreeWithForward(now, s, t, i, rows.get(i));
+            }
+            int m = below(150);
+            for (int k = 0; k <= 4; k++) {
+                calls.due(pair + "earliest by " + k, x.earliest(s, t, m, k), orNone(now.earliest(s, t, m, k)));
+            }
+            calls.due(pair + "ifLate", x.ifLate(trip, d, s, t, m), orNone(later.earliest(s, t, m, 4)));
+            if (s != t && x.missed(s, t, m, 0) == trip) {
+                int e = without.earliest(s, t, m, 4);
+                calls.due(pair + "missed", x.missed(s, t, m, 1), e >= Forward.INF ? -3 : e);
+            }
+        }
+    }
+
+    private void agreeWithForward(Forward now, int s, int t, int i, int[] row) {
+        String name = s + " to " + t + ", " + i + ": ";
+        for (int what = 0; what < 3; what++) {
+            calls.due(name + "at " + what, x.at(s, t, i, what), row[what]);
+        }
+        int[] legs = now.unfolded(s, t, row);
+        for (int l = 0; l < legs.length; l++) {
+            calls.due(name + "leg " + l / 2, x.leg(s, t, i, l / 2, l % 2), legs[l]);
+        }
+    }
+
+    private static int orNone(int minute) {
+        return minute >= Forward.INF ? -2 : minute;
     }
 
     /** No argument makes a call throw but where the document says so. */

@@ -10,15 +10,10 @@ import java.util.regex.Pattern;
 
 /**
  * Sentences of the document, each with the answers that are due by it. A sentence that the document
- * doesn't have, one without an answer, and a boundary that no sentence speaks of, are told as wrong.
+ * doesn't have, one without an answer, and a word of the document in no sentence, are told as wrong.
  */
 final class Sentences {
     private static final Path DOCUMENT = Path.of("../shared/DOC.md");
-    /** Words by which the document names a boundary. */
-    private static final Pattern BOUNDARY = Pattern.compile("NONE|(?<![\\w.])-\\d+|5000|\\.\\. ?-?\\d|Exception"
-        + "|\\bat (most|least|first)\\b|\\bof several\\b|\\bor (more|less|later|fewer)\\b|\\b(below|beyond|empty|too|none|no"
-        + "|never|refused|same|forgotten|ahead|already|nothing|downwards|alike|unlike|another|else|also|without)\\b");
-
     private final Calls calls = new Calls();
     private final Map<String, String> sections = new LinkedHashMap<>();
     private final Map<String, BitSet> spokenOf = new LinkedHashMap<>();
@@ -95,20 +90,21 @@ final class Sentences {
 
     void end() {
         wrongIf(answers == 0, "no answer by: " + quote);
+        // FaceTest has the public face; by what isn't promised no answer is due.
         for (Map.Entry<String, String> one : sections.entrySet()) {
-            if (one.getKey().matches("(Terms|Promise) \\d+")) {
-                lookForBoundaries(one.getKey(), one.getValue());
+            if (one.getKey().matches("What it is|(Terms|Promise) \\d+")) {
+                lookForWords(one.getKey(), one.getValue());
             }
         }
         calls.end();
     }
 
-    private void lookForBoundaries(String name, String text) {
-        Matcher boundary = BOUNDARY.matcher(text);
-        while (boundary.find()) {
-            int place = boundary.start();
-            String around = text.substring(Math.max(0, place - 30), Math.min(text.length(), place + 30));
-            wrongIf(!spokenOf.get(name).get(place), name + " has a boundary without a test: .." + around + "..");
+    private void lookForWords(String name, String text) {
+        Matcher word = Pattern.compile("[\\w-]+").matcher(text.replaceAll("==== \\d\\.", "       "));
+        while (word.find()) {
+            int place = spokenOf.get(name).nextClearBit(word.start());
+            String around = text.substring(Math.max(0, word.start() - 30), Math.min(text.length(), word.end() + 30));
+            wrongIf(place < word.end(), name + " has words without a test: .." + around + "..");
         }
         wrongIf(spokenOf.get(name).isEmpty(), name + " has no test");
     }

@@ -1,7 +1,8 @@
-/** Every sentence of the document that names a boundary, with a test of its own. */
-public final class BoundariesTest {
+/** Every sentence of the document, from its first line to its last, with a test of its own. */
+public final class DocumentTest {
     public static void main(String[] args) throws Exception {
         Sentences doc = new Sentences();
+        new WhatItIs(doc).run();
         new BoundariesOfTexts(doc).run();
         new BoundariesOfTimes(doc).run();
         new BoundariesOfProfiles(doc).run();
